@@ -7,7 +7,7 @@ public final class TestHouse {
 
     private static final int TAPE = 3000, PARCELS = 8, UNITS = 8, MEMBERS = 12, CASES = 16, PROPS = 6;
     private static final int PARAMETERS = 4, LOCALS = 10, NESTED = 20, WITHS = 4, WINGS = 3, ROW_SIZE = 50;
-    private static final int LONGEST_NAME = 8, LONGEST_NUMBER = 9;
+    private static final int LONGEST_NAME = 8, LONGEST_NUMBER = 9, LARGEST_NUMBER = 999999999;
     private static final int CODE = 200, ALL_CODES = 1000;
     // A byte of the tape makes one instruction at most, but for the end of a code.
     private static final int DRAFT = 4096;
@@ -21,7 +21,7 @@ public final class TestHouse {
 
     private static final int TWINS = 8, RULES = 8, KEPT_CALLS = 50;
     private static final int BUILDS = 8, HISTORIES = 8, OPS = 8, LATEST = 1000;
-    private static final int KILL_WORK = 40000, WORK = 20000, NO_LIMIT = Integer.MAX_VALUE;
+    private static final int KILL_WORK = 40000, WORK = 20000, NO_LIMIT = 2147483647;
     private static final int MOST_STEPS = 1000, MOST_TRIES = 200, WIDEST = 60, MOST_ROWS = 400;
     private static final long FINEST = 1000000000L;
     private static final int FACTOR = 1103515245, ADDEND = 12345;
@@ -89,9 +89,8 @@ public final class TestHouse {
 
     private final Parser parser = new Parser();
     private final ArrayList<Parcel> parcels = new ArrayList<>();
-    private final Twin[] twins = new Twin[TWINS];
+    private final Machine machine = new Machine();
     private int twinsMade;
-    private final Machine machine = new Machine(twins);
     private final ArrayList<Build> builds = new ArrayList<>();
     private final ArrayList<History> histories = new ArrayList<>();
     private final Outcome lastAlone = new Outcome();
@@ -110,9 +109,6 @@ public final class TestHouse {
     private final int[][] alteredResults = new int[RESULT_FIELDS][CASES];
 
     public TestHouse() {
-        for (int i = 0; i < TWINS; i++) {
-            twins[i] = new Twin();
-        }
     }
 
     // ---- the tape
@@ -347,11 +343,11 @@ public final class TestHouse {
         }
         Twin free = null;
         for (int i = 0; i < TWINS; i++) {
-            if (twins[i].standsFor(p, m)) {
+            if (machine.twins[i].standsFor(p, m)) {
                 return NONE;
             }
-            if (twins[i].id < 0) {
-                free = twins[i];
+            if (machine.twins[i].id < 0) {
+                free = machine.twins[i];
             }
         }
         if (free == null) {
@@ -650,7 +646,7 @@ public final class TestHouse {
             return NONE;
         }
         machine.prepare(build.old, NO_LIMIT);
-        machine.join(build);
+        machine.takeBuild(build);
         return liveWatched(part);
     }
 
@@ -670,8 +666,8 @@ public final class TestHouse {
 
     private Twin twinAt(int d) {
         for (int i = 0; i < TWINS && d >= 0; i++) {
-            if (twins[i].id == d) {
-                return twins[i];
+            if (machine.twins[i].id == d) {
+                return machine.twins[i];
             }
         }
         return null;
@@ -1031,12 +1027,15 @@ public final class TestHouse {
         /** A NAME that is told here: it may not be known, and not be one too many. */
         private long newName(boolean known, boolean full) {
             long name = text();
-            if (kind == NAME && known) {
+            if (kind != NAME) {
+                stop(FAULT_PLACE);
+            } else if (known) {
                 stop(FAULT_TWICE);
-            } else if (kind == NAME && full) {
+            } else if (full) {
                 stop(FAULT_MANY);
+            } else {
+                advance();
             }
-            expect(NAME);
             return name;
         }
 
@@ -1061,10 +1060,13 @@ public final class TestHouse {
 
         /** Goes into one more of { ( [ - not draw. */
         private void goDeeper(int wanted, int depth) {
-            if (kind == wanted && depth >= NESTED) {
+            if (kind != wanted) {
+                stop(FAULT_PLACE);
+            } else if (depth >= NESTED) {
                 stop(FAULT_MANY);
+            } else {
+                advance();
             }
-            expect(wanted);
         }
 
         // -- what is told already
@@ -1141,26 +1143,21 @@ public final class TestHouse {
                 codeBegin = size;
                 seen = 0;
                 boolean altered = kind == WORD_FUN || kind == WORD_START;
-                readHead(own);
+                if (kind == WORD_FUN) {
+                    readFun(own);
+                } else if (kind == WORD_START || kind == WORD_BEFORE || kind == WORD_AFTER) {
+                    readNameless(units.get(units.size() - 1));
+                } else if (kind == WORD_TEST) {
+                    readTest();
+                } else if (kind == WORD_PROP) {
+                    readProp();
+                } else {
+                    stop(FAULT_PLACE);
+                }
                 block(0);
                 for (int i = codeBegin; i < size; i++) {
                     alterable[i] = altered;
                 }
-            }
-        }
-
-        /** What stands ahead of the BLOCK of a member. */
-        private void readHead(boolean own) {
-            if (kind == WORD_FUN) {
-                readFun(own);
-            } else if (kind == WORD_START || kind == WORD_BEFORE || kind == WORD_AFTER) {
-                readNameless(units.get(units.size() - 1));
-            } else if (kind == WORD_TEST) {
-                readTest();
-            } else if (kind == WORD_PROP) {
-                readProp();
-            } else {
-                stop(FAULT_PLACE);
             }
         }
 
@@ -1245,7 +1242,7 @@ public final class TestHouse {
             }
             if (kind == WORD_RAISES) {
                 advance();
-                part.raises = numberFrom(1, Integer.MAX_VALUE);
+                part.raises = numberFrom(1, LARGEST_NUMBER);
             }
             if (kind == WORD_WITH) {
                 advance();
@@ -1578,7 +1575,7 @@ public final class TestHouse {
 
         // -- uses of NAMES: what they mean is known when the whole tape has been read
 
-        /** [NAME .] NAME */
+        /** [NAME .] NAME, the first of which is looked at. */
         private int readUse() {
             int use = Math.min(useCount, USES - 1);
             useCount = use + 1;
@@ -1587,14 +1584,18 @@ public final class TestHouse {
             useTexts[UNIT_TEXT][use] = 0;
             useTexts[MEMBER_TEXT][use] = text();
             uses[USE_PLACE][use] = scanner.places[at];
-            expect(NAME);
+            advance();
             if (kind == '.') {
                 advance();
                 useTexts[UNIT_TEXT][use] = useTexts[MEMBER_TEXT][use];
                 uses[USE_UNIT_PLACE][use] = uses[USE_PLACE][use];
                 useTexts[MEMBER_TEXT][use] = text();
                 uses[USE_PLACE][use] = scanner.places[at];
-                expect(NAME);
+                if (kind == NAME) {
+                    advance();
+                } else {
+                    stop(FAULT_PLACE);
+                }
             }
             return use;
         }
@@ -1607,11 +1608,8 @@ public final class TestHouse {
         /** A NAME without [ or ( behind: of a LOCAL, or of a member. */
         private void emitPlain(int use, int purpose, int ofLocal, int ofMember) {
             int local = useTexts[UNIT_TEXT][use] == 0 ? localNamed(useTexts[MEMBER_TEXT][use]) : NONE;
-            if (local >= 0) {
-                emit(ofLocal, local);
-            } else {
-                settleLater(use, purpose, ofMember);
-            }
+            uses[USE_FOR][use] = local >= 0 ? FOR_LOCAL : purpose;
+            uses[USE_CODE][use] = local >= 0 ? emit(ofLocal, local) : emit(ofMember, 0);
         }
 
         private void settleUses() {
@@ -1832,7 +1830,7 @@ public final class TestHouse {
         Luck luck;
         int runPlace;
         private int watching;
-        private final Twin[] twins;
+        final Twin[] twins = new Twin[TWINS];
         private final Parcel[] sides = new Parcel[2];
         private Build build;
         // How many STEPS may still be made in all; below 0: one more would have been.
@@ -1849,8 +1847,10 @@ public final class TestHouse {
         private int failure;
         private int where;
 
-        Machine(Twin[] twins) {
-            this.twins = twins;
+        Machine() {
+            for (int i = 0; i < TWINS; i++) {
+                twins[i] = new Twin();
+            }
         }
 
         void prepare(Parcel parcel, int mostSteps) {
@@ -1863,7 +1863,7 @@ public final class TestHouse {
             watching = WATCH_NOTHING;
         }
 
-        void join(Build build) {
+        void takeBuild(Build build) {
             this.build = build;
             sides[1] = build.fresh;
         }
