@@ -13,7 +13,7 @@ final class Checks {
         if (got != want) {
             wrong++;
             if (wrong <= 50) {
-                System.out.println(call + " answered " + got + ", due is " + want);
+                System.out.println((call.length() > 300 ? call.substring(0, 300) + " .." : call) + " answered " + got + ", due is " + want);
             }
         }
     }

@@ -411,6 +411,30 @@ public final class FuzzTest {
         }
     }
 
+    private static final int[] EXTREMES = {Integer.MIN_VALUE, Integer.MIN_VALUE + 1, -1000, -3, -2, -1, 0, 1, 2, 3, 7, 8, 49,
+        50, 200, 201, 400, 999, 1000, 1001, 3000, 65536, Integer.MAX_VALUE - 1, Integer.MAX_VALUE};
+
+    private int extreme() {
+        return chance.nextInt(3) == 0 ? EXTREMES[chance.nextInt(EXTREMES.length)] : chance.nextInt(5) - 1;
+    }
+
+    /** Any call with any numbers, in any state. */
+    private void wild() throws ReflectiveOperationException {
+        if (number % 3 != 0) {
+            parcels(3);
+        }
+        List<String> names = new ArrayList<>(new java.util.TreeSet<>(HOUSE.keySet()));
+        for (int n = 0; n < 1500; n++) {
+            Method m = HOUSE.get(names.get(chance.nextInt(names.size())));
+            Object[] arguments = new Object[m.getParameterCount()];
+            for (int i = 0; i < arguments.length; i++) {
+                arguments[i] = m.getParameterTypes()[i] == boolean.class ? (Object) (chance.nextInt(2) == 0)
+                        : (Object) extreme();
+            }
+            call(m.getName(), arguments);
+        }
+    }
+
     private void special() throws ReflectiveOperationException {
         Programs programs = new Programs(chance, 1000000);
         for (int n = 0; n < 20; n++) {
@@ -463,6 +487,8 @@ public final class FuzzTest {
                 one.noise();
             } else if (n % 5 == 3) {
                 one.special();
+            } else if (n % 5 == 2 && n % 2 == 0) {
+                one.wild();
             } else {
                 one.all();
             }

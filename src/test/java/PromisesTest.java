@@ -16,6 +16,8 @@ public final class PromisesTest {
         promise5Nested();
         promise5Codes();
         promise5Order();
+        fullTapes();
+        cutTapes();
         promise6();
         promise7();
         promise8();
@@ -365,6 +367,54 @@ public final class PromisesTest {
         x.cut(x.cut(0));
         Checks.parcel(x, "unit u{row r[1];}");
         Checks.due("5: none", x.fault(), 0);
+    }
+
+    private static void fullTapes() {
+        // As many tokens as bytes.
+        Checks.dueFault("}".repeat(3000), 2, 0);
+        Checks.dueFault("unit u{}" + ";".repeat(2992), 2, 8);
+        Checks.dueFault("unit u{start{a=(" + "+1".repeat(1492), 2, 16);
+        Checks.dueFault("unit u{start{a=1" + "+1".repeat(1492), 2, 3000);
+        Checks.dueFault("unit u{start{a=1" + "+1".repeat(1489) + "; }}", 6, 2996);
+        Checks.dueFault("unit u{start{" + "a=b;".repeat(746) + " }}", 6, 2998);
+        Checks.dueFault("unit u{start{" + " ".repeat(2987), 2, 3000);
+        Checks.dueFault(" ".repeat(2999) + "u", 2, 2999);
+        Checks.dueFault(" ".repeat(2999) + "!", 1, 2999);
+        fine("unit u{}" + " ".repeat(2984) + "unit v{}");
+        StringBuilder text = new StringBuilder("unit u{");
+        for (int i = 0; i < 5; i++) {
+            text.append("fun f").append(i).append("(){").append("f9();".repeat(99)).append("}");
+        }
+        Checks.dueFault(text.append("fun g(){} }").toString(), 6, text.lastIndexOf("{}") + 1);
+    }
+
+    private static void cutTapes() {
+        // The bytes that were cut off do not belong to the token ahead of them.
+        TestHouse x = new TestHouse();
+        Checks.feed(x, "unit u{var a=12     ");
+        Checks.feed(x, "34b!!!!!!!!!!!!!!!!!");
+        x.cut(24);
+        Checks.due("3: a NUMBER at the end", x.parcel(), -10 - 16);
+        Checks.feed(x, "b");
+        x.cut(20);
+        Checks.feed(x, "unit v{}        1a9=");
+        x.cut(3);
+        x.cut(16);
+        Checks.due("3: one byte more", x.cut(0), 17);
+        x.cut(17);
+        Checks.feed(x, "unit v{}      1a9===");
+        x.cut(5);
+        Checks.due("3: a NUMBER without the letter behind", x.parcel(), -10 - 14);
+        Checks.due("3: a NUMBER without the letter behind", x.fault(), 2);
+        x.cut(x.cut(0));
+        Checks.feed(x, "unit a234567890a23  ");
+        x.cut(7);
+        Checks.due("3: a NAME of 8", x.parcel(), -10 - 13);
+        x.cut(x.cut(0));
+        Checks.feed(x, "unit v{fun f(){!====");
+        x.cut(4);
+        Checks.due("3: a sign without the one behind", x.parcel(), -10 - 15);
+        Checks.due("3: a sign without the one behind", x.fault(), 1);
     }
 
     private static final String WHOLE = "unit ab{const k=-3;own var n=5;shared s=7;own row r[9];fun f(a,b){return a;}"

@@ -146,6 +146,8 @@ public final class StudiesTest {
         altered("fun f(a){raise a;}", "f(9);", 29, 1);
         altered("fun g(a,b){let z=a+b;}fun f(a){return g(a,a)+1;}", "check f(3)==1;", 7, 0);
         altered("fun g(a,b){return a+b;}fun f(a){return g(a,a)+1;}", "check f(3)==7;", 7, 1);
+        // The arguments go, so that what stood ahead of them is added.
+        altered("fun g(a){return a;}fun f(a){return 5+g(a);}", "if f(3)==8{return 1;}check f(3)==5;", 7, 0);
         altered("fun f(a){return a;}", "check f(3)==3;", 8, 1);
         altered("fun f(a){return a;}", "check f(0)==0;", 8, 0);
         // A CALL that is GONE sees to no START.
@@ -463,9 +465,28 @@ public final class StudiesTest {
         Checks.due("34: 1/6 and 1/20", x.luck(0, 3), 9);
         Checks.due("35: 13", x.share(0), 13);
         Checks.due("35: / 60", x.share(1), 60);
+        edgesOfFine();
         // No row is FINE, but their sum: 3 5 7 11 13 17 19 23 are 111546435, and there are halves.
         Checks.due("34: a sum that is FINE", x.luck(0, 4), FINE);
         Checks.due("34: SPENT", x.luck(0, 5), SPENT);
+    }
+
+    private static void edgesOfFine() {
+        String nine = "check not draw 10;".repeat(8);
+        TestHouse x = Checks.house("unit u{test a{" + nine + "check not draw 10;}test b{" + nine + "check draw 10<2;}test c{" + nine
+                + "let d=draw 10;if d<2{return 1;}if d==2{check draw 2;return 1;}raise 1;}test d{" + nine
+                + "let d=draw 10;if d<3{return 1;}if d==3{check draw 2;check 0;}raise 1;}}");
+        x.steps(1000);
+        Checks.due("34: 1000000000 below the line", x.luck(0, 0), 82);
+        Checks.due("35: 1000000000 below the line", x.share(1), 1000000000);
+        Checks.due("34: in lowest terms", x.luck(0, 1), 82);
+        Checks.due("35: in lowest terms", x.share(0), 1);
+        Checks.due("35: in lowest terms", x.share(1), 500000000);
+        // Two of 1000000000 and one of 2000000000 would be one of 400000000.
+        Checks.due("34: a row that is FINE, its sum is not", x.luck(0, 2), FINE);
+        // A row that is FINE, but did not PASS, is nothing.
+        Checks.due("34: a row that is FINE and fails", x.luck(0, 3), 83);
+        Checks.due("35: three", x.share(0), 3);
     }
 
     private static void promises36And37() {
@@ -614,6 +635,13 @@ public final class StudiesTest {
         Checks.due("40: caught", y.touch(0, 0), 1);
         Checks.due("40: the START of the new one", y.touch(1, 0), 3);
         Checks.due("40: by 8", y.told(0), 8);
+        TestHouse z = Checks.house("unit u{test t{check m.g(4)==5;}}unit m{fun g(a){}}", "unit m{fun g(a){let b=a;while 1{}}}",
+                "unit m{row r[2];fun g(a){check v.f(a);}}unit v{start{r[5]=w.x;}row r[5];fun f(a){return r[a-4];}}unit w{var x=1;}");
+        z.build(0, 1);
+        z.build(0, 2);
+        // PUSH CALL; LOAD STORE, then PUSH JUMPZ JUMP: 196 = 65 * 3 + 1.
+        touched(z, 0, 0, 2, 6, 1003, 200);
+        touched(z, 1, 0, 2, 8, 1001, 2 + 2 + 3);
         Checks.due("15: touch() is no run()", y.verdict(0, 0, 0), NONE);
     }
 
