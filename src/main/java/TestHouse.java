@@ -140,12 +140,13 @@ public final class TestHouse {
             return FULL;
         }
         parser.read();
+        // Also a text with a FAULT is gone: only of FULL it is told that the tape stays.
+        parser.scanner.length = 0;
         if (parser.fault != 0) {
             return -10 - parser.place;
         }
         int number = parcels.size();
         parcels.add(new Parcel(parser, number));
-        parser.scanner.length = 0;
         return number;
     }
 

@@ -146,8 +146,7 @@ public final class FuzzTest {
             if (call("parcel") < 0) {
                 call("fault");
                 call("cut", call("feed", 1, 2, 3, 4, 5));
-                int left = call("cut", 0);
-                call("cut", left);
+                emptied();
             }
             call("fault");
         }
@@ -406,9 +405,13 @@ public final class FuzzTest {
             feed(text);
             call("parcel");
             call("fault");
-            int left = call("cut", 0);
-            call("cut", left);
+            emptied();
         }
+    }
+
+    /** The next text stands alone, also behind a parcel() that was FULL. */
+    private void emptied() throws ReflectiveOperationException {
+        call("cut", call("cut", 0));
     }
 
     private static final int[] EXTREMES = {Integer.MIN_VALUE, Integer.MIN_VALUE + 1, -1000, -3, -2, -1, 0, 1, 2, 3, 7, 8, 49,
@@ -440,7 +443,7 @@ public final class FuzzTest {
         for (int n = 0; n < 20; n++) {
             feed(programs.limits());
             if (call("parcel") < 0) {
-                call("cut", call("cut", 0));
+                emptied();
             }
             call("fault");
         }

@@ -1346,15 +1346,16 @@ public final class Model {
         if (parcels.size() == 8) {
             return FULL;
         }
+        String text = tape.toString();
+        tape.setLength(0);
         try {
-            Parcel p = new Reader(tape.toString()).parcel();
+            Parcel p = new Reader(text).parcel();
             new Maker(p).all();
             p.id = parcels.size();
             for (int c = 0; c < p.cases.size(); c++) {
                 p.order.add(c);
             }
             parcels.add(p);
-            tape.setLength(0);
             lastFault = 0;
             return p.id;
         } catch (Fault f) {

@@ -67,6 +67,7 @@ public final class PromisesTest {
         Checks.due("2: just not full", x.feed(0, 0, 0, 0, 0), 3000);
         Checks.due("2: bytes that are no token", x.parcel(), -10);
         Checks.due("2: fault", x.fault(), 1);
+        Checks.due("2: a FAULT leaves no byte", x.feed(0, 0, 0, 0, 0), 20);
     }
 
     private static void promise3() {
@@ -91,10 +92,9 @@ public final class PromisesTest {
             if (n == 3) {
                 Checks.feed(x, "unit u{} unit u{}");
                 Checks.due("4: a FAULT", x.parcel(), -10 - 14);
-                Checks.due("4: the tape stays", x.cut(0), 20);
+                Checks.due("4: the tape is empty behind a FAULT, too", x.cut(0), 0);
+                Checks.due("4: nothing to cut", x.cut(1), BAD);
                 Checks.due("4: no parcel more", x.count(0, 0), 4);
-                Checks.due("4: cut", x.cut(11), 9);
-                Checks.due("4: cut", x.cut(9), 0);
             }
         }
         Checks.due("4: full, and a FAULT", x.parcel(), FULL);
@@ -107,9 +107,26 @@ public final class PromisesTest {
         Checks.due("4: nothing", x.fault(), 2);
         Checks.feed(x, "unit u{");
         Checks.due("4: the end", x.parcel(), -10 - 20);
+        Checks.due("4: the text with the FAULT is gone", x.parcel(), -10);
         Checks.feed(x, "}");
-        Checks.due("4: what was fed on", x.parcel(), 0);
+        Checks.due("4: what is fed behind a FAULT begins anew", x.parcel(), -10);
+        Checks.feed(x, "unit u{}");
+        Checks.due("4: a PARCEL behind FAULTS", x.parcel(), 0);
         Checks.due("4: no FAULT any more", x.fault(), 0);
+        eachFaultEmpties();
+    }
+
+    /** FAULTS 1 to 6, one behind the other, on one object: each begins at place 0. */
+    private static void eachFaultEmpties() {
+        TestHouse x = new TestHouse();
+        String[] texts = {"unit u{@!}", "unit u{@1}", "unit u{}unit @u{}", "unit u{start{@a=1;}}", "unit u{row r[@51];}",
+            "unit u{start{}@start{}}"};
+        for (int n = 0; n < texts.length; n++) {
+            Checks.feed(x, texts[n].replace("@", ""));
+            Checks.due("4: place " + n, x.parcel(), -10 - texts[n].indexOf('@'));
+            Checks.due("4: FAULT " + n, x.fault(), n + 1);
+            Checks.due("4: the tape is empty " + n, x.cut(0), 0);
+        }
     }
 
     private static void promise5Tokens() {
@@ -364,7 +381,6 @@ public final class PromisesTest {
         Checks.parcel(x, "unit u{row r[0];}");
         Checks.due("5", x.fault(), 5);
         Checks.due("5: asked again", x.fault(), 5);
-        x.cut(x.cut(0));
         Checks.parcel(x, "unit u{row r[1];}");
         Checks.due("5: none", x.fault(), 0);
     }
@@ -395,22 +411,13 @@ public final class PromisesTest {
         Checks.feed(x, "34b!!!!!!!!!!!!!!!!!");
         x.cut(24);
         Checks.due("3: a NUMBER at the end", x.parcel(), -10 - 16);
-        Checks.feed(x, "b");
-        x.cut(20);
-        Checks.feed(x, "unit v{}        1a9=");
-        x.cut(3);
-        x.cut(16);
-        Checks.due("3: one byte more", x.cut(0), 17);
-        x.cut(17);
         Checks.feed(x, "unit v{}      1a9===");
         x.cut(5);
         Checks.due("3: a NUMBER without the letter behind", x.parcel(), -10 - 14);
         Checks.due("3: a NUMBER without the letter behind", x.fault(), 2);
-        x.cut(x.cut(0));
         Checks.feed(x, "unit a234567890a23  ");
         x.cut(7);
         Checks.due("3: a NAME of 8", x.parcel(), -10 - 13);
-        x.cut(x.cut(0));
         Checks.feed(x, "unit v{fun f(){!====");
         x.cut(4);
         Checks.due("3: a sign without the one behind", x.parcel(), -10 - 15);
