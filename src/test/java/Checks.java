@@ -1,11 +1,43 @@
+import java.io.IOException;
 import java.nio.charset.StandardCharsets;
+import java.nio.file.Files;
+import java.nio.file.Path;
+import java.util.ArrayList;
+import java.util.List;
 
 /** What the tests share: counting what is not as due, and feeding a text to a house. */
 final class Checks {
     private static int wrong = 0;
     private static int made = 0;
+    private static String document = "";
+    private static String sentence = "";
+    private static final List<String> SAID = new ArrayList<>();
 
     private Checks() {
+    }
+
+    /** Reads the document, so that what a test quotes can be held against it. */
+    static void readDocument(String[] args) throws IOException {
+        document = Files.readString(Path.of(args.length > 0 ? args[0] : ".", "../shared/DOC.md"));
+    }
+
+    /** What the document says and the calls behind this try. */
+    static void says(String quote) {
+        sentence = "";
+        due("the document has: " + quote, document.contains(quote) ? 1 : 0, 1);
+        sentence = "<" + (quote.length() > 60 ? quote.substring(0, 60) + " .." : quote) + "> ";
+        SAID.add(quote);
+    }
+
+    /** Of each of some promises a sentence was quoted. */
+    static void duePromises(int from, int to) {
+        sentence = "";
+        for (int n = from; n <= to; n++) {
+            int begin = document.indexOf("## Promise " + n + ":");
+            int end = document.indexOf(n < 40 ? "## Promise " + (n + 1) + ":" : "## Not promised");
+            String text = begin < 0 || end < begin ? "" : document.substring(begin, end);
+            due("promise " + n + " is quoted", SAID.stream().anyMatch(text::contains) ? 1 : 0, 1);
+        }
     }
 
     static void due(String call, long got, long want) {
@@ -13,6 +45,7 @@ final class Checks {
         if (got != want) {
             wrong++;
             if (wrong <= 50) {
+                System.out.print(sentence);
                 System.out.println((call.length() > 300 ? call.substring(0, 300) + " .." : call) + " answered " + got + ", due is " + want);
             }
         }
