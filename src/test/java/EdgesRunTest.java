@@ -299,6 +299,12 @@ public final class EdgesRunTest {
         value("fun f(a){try{}catch e{return 1;}raise a;}fun g(a){try{f(a);}catch e{return e+5;}}", "g(3)", 8);
         value("fun f(a){try{raise 1;}catch e{}raise a;}fun g(a){try{f(a);}catch e{return e+5;}}", "g(3)", 8);
         value("fun f(a){raise a;}fun h(a){f(a);return 1;}fun g(a){try{return 2+h(a)*3;}catch e{return e+5;}}", "g(3)", 8);
+        // LOCALS stay as they were, and what the codes around have half done.
+        value("fun f(a){try{raise a;}catch e{return e*2;}}", "7+f(3)*f(4)", 55);
+        value("fun f(a){let b=1;let c=2;let d=3;let g=4;let h=5;let i=6;let j=7;let k=8;try{check draw 0;}catch e"
+                + "{return a+10*(b+10*(c+10*(d+10*(g+10*(h+10*(i+10*(j+10*k)))))))+e;}}", "f(6)-9", 876543210);
+        value("fun f(a){let b=5;try{let c=7;g(a);}catch e{let d=3;return a*1000+b*100+d*10+e;}}fun g(a){let b=9;let c=8;raise a+b-c;}",
+                "f(1)*1+f(2)", 1532 + 2533);
         // An empty BLOCK, and one that is left in its midst.
         value("fun f(){try{}catch e{return 1;}return 2;}", "f()", 2);
         fails("fun f(){try{return 3;}catch e{return 1;}return 2;}", "f();raise 4;", 4);
@@ -1003,6 +1009,7 @@ public final class EdgesRunTest {
         Checks.due("one", x.calls(0, -1, 0), 1);
         Checks.due("one of g", x.calls(1, -1, 0), 1);
         Checks.dueRow("without arguments", i -> x.calls(1, 0, i - 1), NONE, BAD);
+        Checks.dueRow("with four", i -> x.calls(0, 0, i - 1), NONE, 1, 2, 3, 4, BAD);
         x.run(0);
         Checks.due("in all CASES", x.calls(0, -1, 0), 151);
         x.build(0, 1);

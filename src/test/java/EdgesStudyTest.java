@@ -499,6 +499,12 @@ public final class EdgesStudyTest {
         lucky(x, 8, 8, 11, 15);
         lucky(x, 9, 3, 2, 3);
         lucky(x, 10, 2, 1, 2);
+        // A row of many DRAWS, of which the last one has more than one number.
+        TestHouse z = Checks.house("unit u{test a{let i=0;while i<5{i=i+1;check not(draw 1" + "+draw 1".repeat(59) + ");}check draw 2;}}");
+        z.steps(1000);
+        lucky(z, 0, 2, 1, 2);
+        z.alone(0, 0);
+        Checks.due("DRAWS", z.told(3), 301);
         // What LUCK drew is nothing for the runs behind it.
         TestHouse y = Checks.house("unit u{test a{check draw 100000==16838;}prop p(a){check draw 100000==16838;}}");
         y.steps(1000);
@@ -534,6 +540,11 @@ public final class EdgesStudyTest {
         z.swap(0, 0, 1);
         Checks.due("in its ORDER", z.blame(0, 4), 1);
         Checks.dueRow("in its ORDER", z::blamed, 0, BAD);
+        // Each one of a chain is needed as long as the one behind it is there: 14 turns, and one that leaves nothing out.
+        String chain = repeated(1, 14, "test t#{if s+1==#{s=#;}else{s=99;}}");
+        TestHouse v = Checks.house("unit u{shared s=0;shared k=0;" + chain + "test z{if s<99{k=1;}}test l{check k==0;}}");
+        Checks.due("15 turns", v.blame(0, 15), 1);
+        Checks.dueRow("15 turns", v::blamed, 14, BAD);
         // All of 15.
         StringBuilder text = new StringBuilder("unit u{shared s=0;");
         for (int n = 0; n < 15; n++) {
@@ -653,6 +664,19 @@ public final class EdgesStudyTest {
             Checks.due("each for itself", x.touch(1, 0), 1);
             Checks.due("the old parcel alone", x.alone(0, 0), 2);
         }
+        // The last units of the old one and all units of the new one.
+        StringBuilder eight = new StringBuilder();
+        StringBuilder seen = new StringBuilder();
+        for (int n = 0; n < 8; n++) {
+            eight.append("unit n").append(n).append("{var v=").append(n).append(";start{v=v+10;}}");
+            seen.append("check ").append(n < 4 ? "n" : "o").append(n).append(".v==").append(n < 4 ? n + 10 : n + 20).append(";");
+        }
+        String left = "unit o0{test t{" + seen + "}}" + repeated(1, 3, "unit n#{var v=1;}") + "unit o4{var v=4;start{v=v+20;}}"
+                + "unit o5{var v=5;start{v=v+20;}}unit o6{var v=6;start{v=v+20;}}unit o7{var v=7;start{v=v+20;}}";
+        TestHouse w = Checks.house(left.replace("check n0.v==10;", ""), eight.toString());
+        w.steps(1000);
+        w.build(0, 1);
+        Checks.due("8 and 8 units", w.touch(0, 0), 1);
         // The shared of both are as told at the beginning of each.
         TestHouse y = Checks.house("unit a{shared s=5;test t{s=s+1;check s==6;check m.up()==3;check m.up()==4;}}unit m{fun up(){}}",
                 "unit m{shared s=2;fun up(){s=s+1;return s;}}");
@@ -1388,6 +1412,13 @@ public final class EdgesStudyTest {
             Checks.due("i", x.foretold(0, far), BAD);
         }
         Checks.due("i", x.foretold(0, 24), BAD);
+        // LOAD, STORE, PUSH and jumps have numbers that are no members.
+        TestHouse z = Checks.house("unit a{var n=1;var m=1;row r[2];fun f(){}}unit b{fun g(c,d){let e=c;let h=d;c=e;while 1{h=2;}try{d=3;}"
+                + "catch k{}return draw 0;}}", "unit a{}");
+        z.build(0, 1);
+        for (int i = 0; i < z.count(0, 3); i++) {
+            Checks.due("no member " + i, z.foretold(0, i), NONE);
+        }
         // The first instruction of the second unit, the first one being replaced, and the other way round.
         TestHouse y = Checks.house("unit a{var n=1;start{n=b.n;}}unit b{var n=1;start{n=a.n;}fun g(){return a.n;}}", "unit a{}", "unit b{}");
         y.build(0, 1);

@@ -23,6 +23,7 @@ public final class EdgesTextTest {
         members();
         statements();
         expressions();
+        anyExpression();
         locals();
         plainNames();
         firstTokens();
@@ -274,6 +275,21 @@ public final class EdgesTextTest {
         }
         fine("unit u{row r[2];fun f(a,b){check not not 1<2 and not 3==4 or 5!=6;check -draw - draw(1);"
                 + "check (1<2)==(2<=3);check r[r[0]]+f(f(1,2),u.r[u.f(1,2)])*-1%2/3;}}");
+    }
+
+    private static void anyExpression() {
+        Checks.says("EXPR: BOTH {or BOTH}   BOTH: DENIED {and DENIED}");
+        String[] places = {"let a=$;", "v=$;", "u.v=$;", "r[$]=1;", "r[1]=$;", "check r[$];", "f($,1);", "f(1,$);", "check f($,1);",
+            "check u.f(1,$);", "if $ {}", "while $ {}", "return $;", "check $;", "raise $;", "check ($);", "check -($);", "check draw ($);"};
+        for (String place : places) {
+            String head = "unit u{var v=1;row r[2];fun f(a,b){}start{";
+            for (String expr : new String[] {"1 or 2", "1 and 2", "not 1", "1<2", "1+2", "1*2", "1 or not 2 and 3", "-1", "draw 1", "v or r[0]",
+                "f(1,2) and 1 or 2"}) {
+                fine(head + place.replace("$", expr) + "}}");
+            }
+            fault(2, head + place.replace("$", "1 or @or 2") + "}}");
+            fault(2, head + place.replace("$", "@or 2") + "}}");
+        }
     }
 
     private static void locals() {
