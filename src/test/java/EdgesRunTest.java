@@ -305,6 +305,7 @@ public final class EdgesRunTest {
                 + "{return a+10*(b+10*(c+10*(d+10*(g+10*(h+10*(i+10*(j+10*k)))))))+e;}}", "f(6)-9", 876543210);
         value("fun f(a){let b=5;try{let c=7;g(a);}catch e{let d=3;return a*1000+b*100+d*10+e;}}fun g(a){let b=9;let c=8;raise a+b-c;}",
                 "f(1)*1+f(2)", 1532 + 2533);
+        value("fun f(a,b,c,d){try{raise a;}catch e{return a*1000+b*100+c*10+d+e;}}", "f(1,2,3,4)", 1235);
         // An empty BLOCK, and one that is left in its midst.
         value("fun f(){try{}catch e{return 1;}return 2;}", "f()", 2);
         fails("fun f(){try{return 3;}catch e{return 1;}return 2;}", "f();raise 4;", 4);
