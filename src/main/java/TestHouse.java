@@ -522,22 +522,8 @@ public final class TestHouse {
         }
         machine.prepare(a, WORK);
         machine.luck = chances;
-        chances.begin();
-        int rows = 0;
-        boolean more = true;
-        for (; rows < MOST_ROWS && more; rows++) {
-            chances.beginRow();
-            machine.beginRun();
-            machine.live(part);
-            if (machine.isSpent()) {
-                return SPENT;
-            }
-            if (machine.outcome.verdict == PASSED) {
-                chances.addRow();
-            }
-            more = chances.nextRow();
-        }
-        if (more) {
+        int rows = lookAtRows(part);
+        if (rows == SPENT) {
             return SPENT;
         }
         if (chances.tooFine) {
@@ -569,18 +555,12 @@ public final class TestHouse {
         System.arraycopy(a.order, 0, suspects, 0, left);
         suspects[left] = c;
         runCases(a, suspects, left + 1, NONE, plainResults);
+        boolean spoilt = machine.outcome.verdict != PASSED;
+        boolean blamable = spoilt && !machine.isSpent() && passesAlone(part);
         if (machine.isSpent()) {
             return SPENT;
         }
-        if (machine.outcome.verdict == PASSED) {
-            return NONE;
-        }
-        machine.beginRun();
-        machine.live(part);
-        if (machine.isSpent()) {
-            return SPENT;
-        }
-        if (machine.outcome.verdict != PASSED) {
+        if (!blamable) {
             return NONE;
         }
         boolean again = true;
@@ -787,6 +767,32 @@ public final class TestHouse {
         }
         int halvings = v < 0 ? i - 1 : i;
         return (int) (v - v / (1L << halvings));
+    }
+
+    /** All rows of DRAWS of a CASE, one after the other: how many, or SPENT. */
+    private int lookAtRows(Part part) {
+        chances.begin();
+        for (int rows = 1; rows <= MOST_ROWS; rows++) {
+            chances.beginRow();
+            machine.beginRun();
+            machine.live(part);
+            if (machine.isSpent()) {
+                return SPENT;
+            }
+            if (machine.outcome.verdict == PASSED) {
+                chances.addRow();
+            }
+            if (!chances.nextRow()) {
+                return rows;
+            }
+        }
+        return SPENT;
+    }
+
+    private boolean passesAlone(Part part) {
+        machine.beginRun();
+        machine.live(part);
+        return machine.outcome.verdict == PASSED;
     }
 
     private static int placeInOrder(Parcel a, int c) {
